@@ -148,7 +148,11 @@ public final class PapersTest {
         Check.due("witness 6", x.witness(3, 1, false), 6);
         Check.due("witness when full", x.witness(3, 4, false), FULL);
         Check.due("alike(3, 4) after FULL", x.alike(3, 4), 1);
-        Check.due("witness: TWICE ahead of FULL", x.witness(1, 3, true), TWICE);
+        int[] heard = {0, 1, 0, 2, 0, 3, 0, 4, 1, 2, 1, 3};
+        for (int i = 0; i < heard.length; i += 2) {
+            Check.due("witness: TWICE ahead of FULL", x.witness(heard[i], heard[i + 1], true), TWICE);
+            Check.due("witness: TWICE, turned about", x.witness(heard[i + 1], heard[i], true), TWICE);
+        }
         Check.due("witness: NUMBER ahead of FULL", x.witness(1, 1, true), NUMBER);
         Check.due("many(7)", x.many(7), 6);
     }
