@@ -1,9 +1,14 @@
+import java.io.IOException;
+import java.nio.file.Files;
+import java.nio.file.Path;
 import java.util.ArrayList;
 import java.util.List;
 
 /** What the tests share: telling wrong answers, feeding texts, and all that a register tells. */
 final class Check {
+    private static final List<String[]> QUOTES = new ArrayList<>();
     private static int wrong = 0;
+    private static String about = "";
 
     private Check() {
     }
@@ -11,15 +16,51 @@ final class Check {
     static void due(String call, long got, long want) {
         if (got != want) {
             wrong++;
-            System.out.println(call + " answered " + got + ", due is " + want);
+            System.out.println(about + call + " answered " + got + ", due is " + want);
         }
     }
 
     static void holds(String what, boolean held) {
         if (!held) {
             wrong++;
-            System.out.println("not so: " + what);
+            System.out.println(about + "not so: " + what);
         }
+    }
+
+    /** What is looked at from here on is a test of this sentence, in this place of the document. */
+    static void sentence(String place, String quote) {
+        QUOTES.add(new String[] {place, quote});
+        about = "[" + place + ": " + quote + "] ";
+    }
+
+    /** As end(), and each sentence stands in its place word for word: a test of none would be a wrong test. */
+    static void endOfSentences(String[] args) throws IOException {
+        Path root = Path.of(args.length > 0 ? args[0] : ".");
+        String document = Files.readString(root.resolve("../shared/DOC.md"));
+        about = "";
+        for (String[] quote : QUOTES) {
+            holds("the document says at " + quote[0] + ": " + quote[1],
+                    placeOf(document, quote[0]).replaceAll("\\s+", " ").contains(quote[1]));
+        }
+        end();
+    }
+
+    /** "terms 2", "promise 17", or else the place that begins with the words. */
+    private static String placeOf(String document, String place) {
+        String number = place.replaceAll("[^0-9]", "");
+        if (place.startsWith("promise ")) {
+            return between(document, "## Promise " + number + ":", "\n## ");
+        }
+        if (place.startsWith("terms ")) {
+            return between(between(document, "## Terms", "A call that is refused"), "\n" + number + ". ", "\n\\d\\. ");
+        }
+        return document.contains(place) ? document.substring(document.indexOf(place)) : "";
+    }
+
+    /** From a word on to what a pattern finds behind it; nothing if the word isn't there. */
+    private static String between(String text, String from, String to) {
+        int start = text.indexOf(from);
+        return start < 0 ? "" : from + text.substring(start + from.length()).split(to, 2)[0];
     }
 
     static void end() {
