@@ -117,8 +117,26 @@ public final class RefusedEdgesTest {
         HullRegister x = some();
         List<Integer> told = Check.allTold(x);
         Check.holds("a new object is empty when others are not", before.equals(Check.allTold(new HullRegister())));
-        full();
+        fillOtherwise(new HullRegister());
         Check.holds("an object stays when another one is filled", told.equals(Check.allTold(x)));
+    }
+
+    /** Nothing of it is as in some(). */
+    private static void fillOtherwise(HullRegister x) {
+        for (int i = 0; i < 5; i++) {
+            Check.enact(x, "" + i, 100 * i + 50);
+            x.hull(20 + i, 30, 40, 50);
+            x.measure(i, 999);
+            x.sell(i, 0, 4, 50);
+            x.pledge(i, 4, 6, 50);
+        }
+        for (int i = 0; i < 8; i++) {
+            x.paper(5, 5, 9, 9, 9);
+        }
+        x.witness(0, 1, true);
+        x.witness(1, 3, true);
+        x.forge(0);
+        Check.feed(x, "lb+");
     }
 
     /** Each argument, the others being good: at both of its bounds it is taken, and outside of them refused. */
