@@ -58,6 +58,7 @@ public final class ActsEdgesTest {
     private static void whichIsInForce() {
         theGreatestDayThatHasCome();
         theGreatestNumberOfLikeOnes();
+        inForceOfEveryDay();
         noDayOfInForce();
         noneInForce();
     }
@@ -374,6 +375,22 @@ public final class ActsEdgesTest {
             Check.due("inForce(0) of " + (i + 1), x.inForce(0), onDay0[i]);
             Check.due("inForce(50) of " + (i + 1), x.inForce(50), onDay50[i]);
             Check.due("inForce(999) of " + (i + 1), x.inForce(999), onDay50[i]);
+        }
+    }
+
+    private static void inForceOfEveryDay() {
+        Check.sentence("promise 5", "The ACT IN FORCE on a DAY.");
+        int[] days = {400, 0, 999, 200, 400};
+        // An object is used for 512 calls at most.
+        for (int from = 0; from < 1000; from += 250) {
+            HullRegister x = new HullRegister();
+            for (int i = 0; i < 5; i++) {
+                Check.due("act " + i, Check.enact(x, "l", days[i]), i);
+            }
+            for (int day = from; day < from + 250; day++) {
+                int due = day < 200 ? 1 : day < 400 ? 3 : day < 999 ? 4 : 2;
+                Check.due("inForce(" + day + ")", x.inForce(day), due);
+            }
         }
     }
 

@@ -83,6 +83,7 @@ public final class EntriesEdgesTest {
         entryOfWrongNumbers();
         partsOfPersons();
         partsOfWrongNumbers();
+        managerOfEachHull();
         managerOfWrongNumbers();
         heldInPledge();
         heldOfWrongNumbers();
@@ -766,6 +767,21 @@ public final class EntriesEdgesTest {
             Check.due("parts, person " + wrong, x.parts(0, wrong, true), NUMBER);
             Check.due("parts, person " + wrong, x.parts(1, wrong, false), NUMBER);
         }
+    }
+
+    private static void managerOfEachHull() {
+        Check.sentence("promise 18", "THE MANAGER of a HULL.");
+        HullRegister x = withHulls(5);
+        for (int hull = 1; hull < 5; hull++) {
+            x.sell(hull, 0, hull, 33);
+            x.pledge(hull, hull, 7, 33);
+        }
+        for (int hull = 0; hull < 5; hull++) {
+            Check.due("manager(" + hull + "), whose parts are pledged", x.manager(hull), hull);
+        }
+        x.forge(0);
+        Check.due("manager(1) when the sale was forged", x.manager(1), 0);
+        Check.due("manager(2) then", x.manager(2), 2);
     }
 
     private static void managerOfWrongNumbers() {

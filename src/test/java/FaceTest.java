@@ -12,7 +12,7 @@ import java.util.TreeSet;
 import java.util.regex.Matcher;
 import java.util.regex.Pattern;
 
-/** The public face, and those rules of LANGUAGE.md that can be seen by reflection or in the source. */
+/** The public face as the document has it, and what LANGUAGE.md says of the names and classes about it. */
 public final class FaceTest {
     private static final String[] FACE = {
         "NUMBER = -1", "FULL = -2", "TWICE = -3", "NONE = -4", "KIND = -5", "NOTHING = -10000000",
@@ -22,15 +22,12 @@ public final class FaceTest {
         "entry(int,int)", "parts(int,int,boolean)", "manager(int)", "held(int,int)",
         "paper(int,int,int,int,int)", "witness(int,int,boolean)", "alike(int,int)", "group(int)", "groups()",
         "many(int)"};
-    private static final String[] BANNED = {"throw", "throws", "try", "catch", "finally", "synchronized", "assert",
-        "package", "volatile", "native", "instanceof", "Object", "Exception", "System.out", "System.exit",
-        "System.nanoTime", "System.currentTimeMillis", "Thread", "Random", "->", "::"};
 
     public static void main(String[] args) throws IOException, IllegalAccessException {
         faceIsTheDocuments();
         nestedClassesAreStaticAndHidden();
         noPrivateMethodHasAPublicName();
-        sourceKeepsToTheRules(args);
+        sourceIsAsTheDocumentSays(Path.of(args.length > 0 ? args[0] : "."));
         Check.end();
     }
 
@@ -106,20 +103,45 @@ public final class FaceTest {
         }
     }
 
-    private static void sourceKeepsToTheRules(String[] args) throws IOException {
-        Path root = Path.of(args.length > 0 ? args[0] : ".");
+    private static void sourceIsAsTheDocumentSays(Path root) throws IOException {
+        Path file = root.resolve("../shared/DOC.md");
+        if (!Files.isReadable(file)) {
+            System.out.println("no document to look the face up in: " + file);
+            return;
+        }
+        String document = Files.readString(file);
         String source = Files.readString(root.resolve("src/main/java/HullRegister.java"));
-        String code = source.replaceAll("(?s)/\\*.*?\\*/", " ").replaceAll("//[^\n]*", " ");
-        for (String word : BANNED) {
-            String edge = Character.isLetter(word.charAt(0)) ? "\\b" : "";
-            Check.holds("the source has no " + word, !Pattern.compile(edge + Pattern.quote(word) + edge).matcher(code).find());
+        linesOfTheFaceStand(document, source);
+        areasAreAheadOfTheirCalls(document, source);
+    }
+
+    /** Each line of the document's face, with its names of parameters, in its order. */
+    private static void linesOfTheFaceStand(String document, String source) {
+        Matcher lines = Pattern.compile("(?m)^(    public .*|public final class .*)$").matcher(document);
+        int behind = 0;
+        int seen = 0;
+        while (lines.find()) {
+            String line = lines.group(1).replace(");", ") {");
+            int at = source.indexOf("\n" + line + "\n", behind);
+            Check.holds("the source has in its place: " + line, at >= 0);
+            behind = Math.max(behind, at);
+            seen++;
         }
-        Matcher imports = Pattern.compile("import ([^;]*);").matcher(code);
-        while (imports.find()) {
-            Check.holds("import of " + imports.group(1), imports.group(1).matches("java\\.util\\.(Arrays|ArrayList|List)"));
+        Check.due("lines of the face", seen, 1 + FACE.length);
+    }
+
+    private static void areasAreAheadOfTheirCalls(String document, String source) {
+        Matcher areas = Pattern.compile("Ahead of the calls (.*) the interface says: (---- \\w+)").matcher(document);
+        int calls = 0;
+        while (areas.find()) {
+            for (String name : areas.group(1).replaceAll("[`,]", "").split(" ")) {
+                int at = source.indexOf("public int " + name + "(");
+                int head = source.lastIndexOf("// ----", Math.max(0, at));
+                Check.holds("ahead of " + name + ": " + areas.group(2),
+                        at >= 0 && head >= 0 && source.startsWith("// " + areas.group(2) + "\n", head));
+                calls++;
+            }
         }
-        for (String area : new String[] {"acts", "hulls", "entries", "papers"}) {
-            Check.holds("the interface says ---- " + area, source.contains("// ---- " + area + "\n"));
-        }
+        Check.due("calls of the areas", calls, 24);
     }
 }

@@ -20,6 +20,10 @@ public final class RefusedEdgesTest {
         objectsAreApart();
         wrongNumbersAreRefused();
         numbersThatCantBeTold();
+        asManyAsMayBe();
+        soAlready();
+        thereIsNone();
+        anotherKind();
         aRefusedCallChangesNothing();
         theFirstRefusalNamed();
         theLastOfAllCalls();
@@ -175,7 +179,7 @@ public final class RefusedEdgesTest {
     }
 
     private static void wrongNumbersAreRefused() {
-        Check.sentence("The constants", "A number is none, or none that may be.");
+        Check.sentence("The constants", "`NUMBER = -1`: A number is none, or none that may be.");
         bounds("act", NUMBER, (x, n) -> x.act(n[0]), good(5), 0, 999);
         bounds("inForce", NUMBER, (x, n) -> x.inForce(n[0]), good(5), 0, 999);
         bounds("hull", NUMBER, (x, n) -> x.hull(n[0], n[1], n[2], n[3]), good(5, 5, 5, 5), 1, 99, 1, 99, 1, 99, 0, 999);
@@ -201,11 +205,58 @@ public final class RefusedEdgesTest {
     }
 
     private static void numbersThatCantBeTold() {
-        Check.sentence("The constants", "What is answered for a number that can't be told.");
+        Check.sentence("The constants", "`NOTHING = -10000000`: What is answered for a number that can't be told.");
         bounds("tons", NOTHING, (x, n) -> x.tons(n[0], n[1], n[2], n[3], n[4]), good(1, 5, 5, 5, 5),
                 0, 2, 1, 99, 1, 99, 1, 99, 0, 999);
         bounds("shape", NOTHING, (x, n) -> x.shape(n[0], n[1], n[2]), good(1, 5, 2), 0, 2, 1, 1728, 0, 3);
         bounds("of", NOTHING, (x, n) -> x.of(n[0], n[1]), good(1, 2), 0, 2, 0, 6);
+    }
+
+    private static void asManyAsMayBe() {
+        Check.sentence("The constants", "`FULL = -2`: There are as many as may be.");
+        HullRegister x = full();
+        Check.due("feed", x.feed(' '), -2);
+        Check.due("act", x.act(0), -2);
+        Check.due("hull", x.hull(1, 1, 1, 0), -2);
+        Check.due("sell", x.sell(0, 0, 1, 1), -2);
+        Check.due("pledge", x.pledge(0, 0, 1, 1), -2);
+        Check.due("redeem", x.redeem(1), -2);
+        Check.due("paper", x.paper(0, 0, 1, 1, 0), -2);
+        Check.due("witness", x.witness(0, 2, true), -2);
+        Check.due("what may be altered still", x.alter(4, 1, 1, 1, 0), 1);
+        Check.due("what may be measured still", x.measure(4, 999), 1);
+        Check.due("what may be forged still", x.forge(59), 1);
+    }
+
+    private static void soAlready() {
+        Check.sentence("The constants", "`TWICE = -3`: It is so already.");
+        HullRegister x = some();
+        Check.due("forge", x.forge(5), -3);
+        Check.due("witness", x.witness(0, 1, false), -3);
+        Check.due("forge of another one", x.forge(4), 1);
+        Check.due("witness of two others", x.witness(0, 2, false), 3);
+    }
+
+    private static void thereIsNone() {
+        Check.sentence("The constants", "`NONE = -4`: There is none.");
+        HullRegister x = new HullRegister();
+        x.hull(1, 1, 1, 0);
+        x.sell(0, 0, 1, 1);
+        Check.due("inForce", x.inForce(0), -4);
+        Check.due("measure", x.measure(0, 0), -4);
+        Check.due("entry, the rank", x.entry(0, 7), -4);
+        Check.due("entry, the pledge", x.entry(0, 8), -4);
+    }
+
+    private static void anotherKind() {
+        Check.sentence("The constants", "`KIND = -5`: A TEXT isn't GOOD, or an ENTRY is another one.");
+        HullRegister x = some();
+        Check.due("redeem of a sale", x.redeem(0), -5);
+        Check.due("redeem of a redeem", x.redeem(3), -5);
+        Check.due("act of what is fed", x.act(0), 3);
+        Check.due("act of nothing", x.act(0), -5);
+        x.feed('+');
+        Check.due("act that isn't good", x.act(0), -5);
     }
 
     /** All that is told, and what calls that change something answer and leave behind. */
